@@ -91,7 +91,7 @@ final class FaceTest {
         String source = Files.readString(Path.of("src/main/java/SeaGates.java"));
         String code = source.replaceAll("(?s)/\\*.*?\\*/", "").replaceAll("//[^\n]*", "");
         String[] banned = {
-            "\\bthrow", "\\btry\\b", "\\bcatch\\b", "\\bsynchronized\\b", "\\bassert\\b", "->", "::", "@", "\\bExact\\b",
+            "\\bthrow", "\\btry\\b", "\\bcatch\\b", "\\bsynchronized\\b", "\\bassert\\b", "->", "::", "@", "Exact\\b",
             "\\bpackage\\b", "\\bSystem\\.(?!arraycopy)", "\\bprotected\\b", "\\bhashCode\\b", "\\btoString\\b",
         };
         for (String word : banned) {
